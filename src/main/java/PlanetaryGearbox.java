@@ -359,7 +359,8 @@ public final class PlanetaryGearbox {
     }
 
     private float ratioOfGear(int index) {
-        return floatQuotient(gears.ratioPart(index, NUMERATOR), gears.ratioPart(index, DENOMINATOR));
+        return floatQuotient(gears.ratioPart(index, NUMERATOR),
+                gears.ratioPart(index, DENOMINATOR));
     }
 
     private boolean changeEngaged(int mask) {

@@ -72,6 +72,11 @@ public final class GearTest {
         Check.index("21 no gear of the brake", () -> box.gear(1));
         box.addSet(0, 2, 1, 20, 40);
         Check.equal("21 a gear of the brake", box.gear(1), 2);
+        PlanetaryGearbox braked = new PlanetaryGearbox();
+        braked.addSet(0, 2, 1, 20, 40);
+        Check.index("21 no brake yet", () -> braked.gear(0));
+        braked.addBrake(2);
+        Check.equal("21 the gear of a new brake", braked.gear(0), 1);
     }
 
     private static void promise22() {
