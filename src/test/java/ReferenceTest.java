@@ -1,15 +1,22 @@
+import java.util.ArrayList;
+import java.util.Arrays;
 import java.util.List;
+import java.util.function.Consumer;
 
 /**
  * Runs of many calls on gearboxes made by a fixed sequence of numbers: every answer and every
- * exception is compared with ReferenceGearbox.
+ * exception is compared with ReferenceGearbox. Nothing is promised after 512 calls: before that
+ * a new object takes the place of the old one, with the same changes.
  */
 public final class ReferenceTest {
     private static final int RUNS = 250;
     private static final int CALLS = 40;
+    private static final int PROMISED_CALLS = 512;
 
     private long seed;
-    private final PlanetaryGearbox box = new PlanetaryGearbox();
+    private PlanetaryGearbox box = new PlanetaryGearbox();
+    private int calls = 0;
+    private final List<Consumer<PlanetaryGearbox>> changes = new ArrayList<>();
     private final ReferenceGearbox due = new ReferenceGearbox();
     private final String run;
 
@@ -26,6 +33,7 @@ public final class ReferenceTest {
     }
 
     private void go() {
+        willCall(9);
         int sets = number(4);
         for (int i = 0; i < sets; i++) {
             addSet();
@@ -35,6 +43,7 @@ public final class ReferenceTest {
             addElement();
         }
         for (int call = 0; call < CALLS; call++) {
+            willCall(2);
             change(number(12));
             Check.equal(run + "engaged", box.engaged(), due.engaged);
             if (call % 4 == 0) {
@@ -45,6 +54,18 @@ public final class ReferenceTest {
                 compareGears();
             }
         }
+    }
+
+    /** Comes before that many calls of the box, and before its changes are looked up. */
+    private void willCall(int more) {
+        if (calls + more > PROMISED_CALLS) {
+            box = new PlanetaryGearbox();
+            for (Consumer<PlanetaryGearbox> change : changes) {
+                change.accept(box);
+            }
+            calls = changes.size();
+        }
+        calls += more;
     }
 
     private int number(int bound) {
@@ -64,10 +85,12 @@ public final class ReferenceTest {
             setCapacity(number(elements), 1 + number(10000));
         } else if (kind == 4) {
             Check.equal(run + "undo", box.undo() ? 1 : 0, due.undo() ? 1 : 0);
+            changes.add(x -> x.undo());
         } else if (kind < 8) {
             int mask = number(1 << elements);
             Check.equal(run + "select", box.select(mask), due.engaged);
             due.change(mask);
+            changes.add(x -> x.select(mask));
         } else if (elements > 0) {
             engageOrRelease(kind < 10, number(elements));
         }
@@ -87,6 +110,7 @@ public final class ReferenceTest {
             due.sets.add(new ReferenceGearbox.GearSet(sun, ring, carrier, sunTeeth, ringTeeth));
             Check.equal(run + "addSet", box.addSet(sun, ring, carrier, sunTeeth, ringTeeth),
                     due.sets.size());
+            changes.add(x -> x.addSet(sun, ring, carrier, sunTeeth, ringTeeth));
         }
     }
 
@@ -94,15 +118,16 @@ public final class ReferenceTest {
         int first = number(6);
         int second = number(2) == 0 ? -1 : (first + 1 + number(5)) % 6;
         if (due.elements.size() == 6) {
-            Check.state(run + "add", () -> addElement(first, second));
+            Check.state(run + "add", () -> addElement(box, first, second));
         } else {
-            Check.equal(run + "add", addElement(first, second), due.elements.size());
+            Check.equal(run + "add", addElement(box, first, second), due.elements.size());
             due.elements.add(new ReferenceGearbox.Element(first, second, 1000));
+            changes.add(x -> addElement(x, first, second));
         }
     }
 
-    private int addElement(int first, int second) {
-        return second < 0 ? box.addBrake(first) : box.addClutch(first, second);
+    private static int addElement(PlanetaryGearbox asked, int first, int second) {
+        return second < 0 ? asked.addBrake(first) : asked.addClutch(first, second);
     }
 
     private void setCapacity(int element, int capacity) {
@@ -110,6 +135,7 @@ public final class ReferenceTest {
         Check.equal(run + "setCapacity", box.setCapacity(element, capacity), old.capacity());
         due.elements.set(element,
                 new ReferenceGearbox.Element(old.first(), old.second(), capacity));
+        changes.add(x -> x.setCapacity(element, capacity));
     }
 
     private void engageOrRelease(boolean engage, int element) {
@@ -117,9 +143,11 @@ public final class ReferenceTest {
         if (engage) {
             Check.equal(run + "engage", box.engage(element) ? 1 : 0, was ? 0 : 1);
             due.change(due.engaged | 1 << element);
+            changes.add(x -> x.engage(element));
         } else {
             Check.equal(run + "release", box.release(element) ? 1 : 0, was ? 1 : 0);
             due.change(due.engaged & ~(1 << element));
+            changes.add(x -> x.release(element));
         }
     }
 
@@ -128,15 +156,18 @@ public final class ReferenceTest {
         if (number(3) == 0) {
             box.save(slot);
             due.save(slot);
+            changes.add(x -> x.save(slot));
         } else if (due.slots[slot] == null) {
             Check.state(run + "restore", () -> box.restore(slot));
         } else {
             box.restore(slot);
             due.restore(slot);
+            changes.add(x -> x.restore(slot));
         }
     }
 
     private void compareSpeeds() {
+        willCall(20);
         Check.equal(run + "sets", box.count(0), due.sets.size());
         Check.equal(run + "elements", box.count(1), due.elements.size());
         Check.equal(run + "brakesOnly", box.brakesOnly() ? 1 : 0, due.brakesOnly() ? 1 : 0);
@@ -155,6 +186,7 @@ public final class ReferenceTest {
     }
 
     private void compareTorques() {
+        willCall(16);
         compare("outputTorque", box::outputTorque, due.outputTorque());
         for (int element = 0; element < due.elements.size(); element++) {
             int asked = element;
@@ -187,6 +219,7 @@ public final class ReferenceTest {
     private void compareGears() {
         List<ReferenceGearbox.Gear> gears = due.gears();
         int size = gears.size();
+        willCall(4);
         Check.equal(run + "gears", box.count(2), size);
         if (box.count(2) != size) {
             return;
@@ -194,11 +227,12 @@ public final class ReferenceTest {
         Check.index(run + "gear", () -> box.gear(size));
         Check.index(run + "step", () -> box.step(size - 1));
         int[] indexes = new int[1 << due.elements.size()];
-        java.util.Arrays.fill(indexes, -1);
+        Arrays.fill(indexes, -1);
         for (int index = 0; index < size; index++) {
             ReferenceGearbox.Gear gear = gears.get(index);
             indexes[gear.mask()] = index;
             int asked = index;
+            willCall(4);
             Check.equal(run + "gear", box.gear(index), gear.mask());
             compare("gearRatio", part -> box.gearRatio(asked, part), gear.ratio());
             if (index + 1 < size) {
@@ -207,6 +241,7 @@ public final class ReferenceTest {
             }
             compareWays(gears, index);
         }
+        willCall(indexes.length);
         for (int mask = 0; mask < indexes.length; mask++) {
             Check.equal(run + "indexOf", box.indexOf(mask), indexes[mask]);
         }
@@ -216,6 +251,7 @@ public final class ReferenceTest {
         for (int to = 0; to < gears.size(); to++) {
             int[] way = ReferenceGearbox.way(gears, from, to);
             int shifts = way == null ? -1 : way.length - 1;
+            willCall(4 + shifts);
             Check.equal(run + "fewestShifts", box.fewestShifts(from, to), shifts);
             for (int index = -1; index <= shifts + 1; index++) {
                 int gear = index < 0 || index > shifts ? -1 : way[index];
